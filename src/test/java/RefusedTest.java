@@ -9,7 +9,8 @@ public final class RefusedTest {
     private static final int MAX = Maps.MAX;
     private static final int MOST_KEYS = 2000;
     private static final int[][] NO_MAKE = {
-        {-1, 0, 0}, {3, 0, 1}, {0, -1, 0}, {1, 3, 0}, {0, 0, 1}, {1, 0, -1}, {2, 0, 0}, {2, 0, 2001}, {2, 3, 1},
+        {-1, 0, 0}, {3, 0, 0}, {3, 0, 1}, {0, -1, 0}, {1, 3, 0}, {0, 0, 1}, {1, 0, -1}, {2, 0, 0}, {2, 0, 2001},
+        {2, 3, 1},
     };
 
     private final int mode;
