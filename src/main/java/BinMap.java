@@ -141,17 +141,7 @@ public final class BinMap {
     public int wrong() {
         int faults = line.faults() + bins.faults(line.count());
         int limit = mode == AS_TOUCHED ? most : MOST_KEYS;
-        if (line.count() > limit) {
-            faults++;
-        }
-        int slot = line.first();
-        for (int i = 0; i < line.count(); i++) {
-            if (bins.slotOf(bins.keyOf(slot)) != slot) {
-                faults++;
-            }
-            slot = line.behind(slot);
-        }
-        return faults;
+        return faults + faultsBetween() + (line.count() > limit ? 1 : 0);
     }
 
     private static boolean isMode(int mode, int most) {
@@ -208,10 +198,35 @@ public final class BinMap {
         return mode == BY_PLACES ? bins.behind(slot) : line.behind(slot);
     }
 
+    /** Where the line and the bins, each right by itself, do not tell the same. */
+    private int faultsBetween() {
+        int faults = 0;
+        line.rank();
+        int slot = line.first();
+        for (int i = 0; i < line.count(); i++) {
+            if (bins.slotOf(bins.keyOf(slot)) != slot) {
+                faults++;
+            }
+            if (isOvertaken(slot)) {
+                faults++;
+            }
+            slot = line.behind(slot);
+        }
+        return faults;
+    }
+
+    /** In MODE 2 no order is told by bins, and a touch leaves them as they are. */
+    private boolean isOvertaken(int slot) {
+        int next = bins.nextInPlace(slot);
+        return mode != AS_TOUCHED && next != NONE && line.rankOf(next) < line.rankOf(slot);
+    }
+
     /** The slots in use, as their KEYS came or, in MODE 2, were touched last; and the free ones. */
     private static final class Line {
         private final int[] before;
         private final int[] behind;
+        /** How many stand before a slot; right only just after rank(), as nothing else needs it. */
+        private final int[] ranks;
         private int first;
         private int last;
         private int count;
@@ -220,6 +235,7 @@ public final class BinMap {
         Line() {
             before = new int[SLOTS];
             behind = new int[SLOTS];
+            ranks = new int[SLOTS];
             for (int slot = 1; slot < SLOTS - 1; slot++) {
                 behind[slot] = slot + 1;
             }
@@ -239,6 +255,18 @@ public final class BinMap {
 
         int behind(int slot) {
             return behind[slot];
+        }
+
+        int rankOf(int slot) {
+            return ranks[slot];
+        }
+
+        void rank() {
+            int slot = first;
+            for (int i = 0; i < count; i++) {
+                ranks[slot] = i;
+                slot = behind[slot];
+            }
         }
 
         /** Puts a free slot at the end; there is one, as at most 2000 are in use before. */
@@ -413,6 +441,10 @@ public final class BinMap {
                 }
             }
             return NONE;
+        }
+
+        int nextInPlace(int slot) {
+            return next[slot];
         }
 
         int behind(int slot) {

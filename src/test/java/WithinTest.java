@@ -3,7 +3,7 @@ import java.util.List;
 /** That wrong() finds what is broken within, and that the rows of a new object are used for good. */
 public final class WithinTest {
     private static final int KEYS = 60;
-    private static final int MOST_FIELDS = 28000;
+    private static final int MOST_FIELDS = 30000;
 
     public static void main(String[] args) {
         for (int function = 0; function <= 2; function++) {
@@ -11,6 +11,13 @@ public final class WithinTest {
         }
         brokenTrees();
         brokenNumbers();
+        for (int mode = 0; mode <= 1; mode++) {
+            swappedInPlace(mode, 0, 16, 8);
+            swappedInPlace(mode, 1, 4, 9);
+            swappedInPlace(mode, 1, 4, KEYS);
+            swappedInLine(mode);
+        }
+        binsOfTouched();
         longBinsAreTrees();
         rowsAreUsedAgain();
         Due.finish("WithinTest");
@@ -82,6 +89,72 @@ public final class WithinTest {
         Due.holds("wrong() with " + path + "[" + index + "] " + value + " is not 0", map.wrong() > 0);
         row[index] = was;
         Due.answer("mended: wrong()", 0, map.wrong());
+    }
+
+    /** Two neighbours change their spots in a chain whose links are all right: the order is not. */
+    private static void swappedInPlace(int mode, int function, int step, int keys) {
+        BinMap map = Maps.made(mode, function, 0);
+        map.fill(0, step, keys);
+        int[] heads = new Inside(map, "bins.heads").row();
+        int[] next = new Inside(map, "bins.next").row();
+        int[] previous = new Inside(map, "bins.previous").row();
+        int slot = heads[0];
+        for (int i = 0; i + 1 < keys; i++) {
+            int behind = next[slot];
+            swap(heads, next, previous, slot);
+            Due.answer("KEYS " + i + " and " + (i + 1) + " of " + keys + " swapped in MODE " + mode + ": wrong()",
+                    1, map.wrong());
+            swap(heads, next, previous, behind);
+            Due.answer("mended: wrong()", 0, map.wrong());
+            slot = next[slot];
+        }
+        Due.answer("no slot is left in the chain", 0, next[slot]);
+    }
+
+    /** All at PLACE 0: the slot and the one behind it, whose previous may be the last of the chain. */
+    private static void swap(int[] heads, int[] next, int[] previous, int slot) {
+        int behind = next[slot];
+        int to = next[behind];
+        int from = previous[slot];
+        boolean isHead = heads[0] == slot;
+        if (isHead) {
+            heads[0] = behind;
+        } else {
+            next[from] = behind;
+        }
+        next[behind] = slot;
+        next[slot] = to;
+        previous[slot] = behind;
+        previous[behind] = isHead && to == 0 ? slot : from;
+        previous[to == 0 ? heads[0] : to] = slot;
+    }
+
+    /** In the line KEYS that share a PLACE change theirs, while the bins stay as they came. */
+    private static void swappedInLine(int mode) {
+        BinMap map = Maps.made(mode, 1, 0);
+        map.fill(0, 4, KEYS);
+        int[] before = new Inside(map, "line.before").row();
+        int[] behind = new Inside(map, "line.behind").row();
+        Inside first = new Inside(map, "line.first");
+        int head = first.number();
+        int second = behind[head];
+        int third = behind[second];
+        first.set(second);
+        before[second] = 0;
+        behind[second] = head;
+        before[head] = second;
+        behind[head] = third;
+        before[third] = head;
+        Due.answer("the first two swapped in the line in MODE " + mode + ": wrong()", 1, map.wrong());
+    }
+
+    /** A touch moves a KEY in the line alone, and that is right. */
+    private static void binsOfTouched() {
+        BinMap map = filled(2, 1);
+        for (int k = 0; k < KEYS; k += 3) {
+            map.find(k, false);
+            Due.answer("touched: wrong()", 0, map.wrong());
+        }
     }
 
     private static void longBinsAreTrees() {
